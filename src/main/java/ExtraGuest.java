@@ -100,8 +100,8 @@ public final class ExtraGuest {
     private final Landlord landlord;
 
     public ExtraGuest() {
-        tape = new Tape();
-        reader = new Reader(tape);
+        reader = new Reader();
+        tape = reader.tape;
         house = new Inn();
         nextHouse = new Inn();
         lines = new Morning();
@@ -594,14 +594,10 @@ public final class ExtraGuest {
 
     /** Reads FORMULAS, Es and NAMES; what answers false, or NONE, has kept the FAULT. */
     private static final class Grammar {
-        final Tape tape;
+        final Tape tape = new Tape();
         final Code code = new Code();
         Inn inn;
         int fault;
-
-        Grammar(Tape tape) {
-            this.tape = tape;
-        }
 
         void begin(Inn names) {
             inn = names;
@@ -772,18 +768,13 @@ public final class ExtraGuest {
 
     /** Reads the TAPE, which it takes, as an INN or a MORNING; 0 is answered, or the FAULT. */
     private static final class Reader {
-        final Tape tape;
-        final Grammar grammar;
+        final Grammar grammar = new Grammar();
+        final Tape tape = grammar.tape;
         final int[] signFrom = new int[SIGNS];
         final int[] signTo = new int[SIGNS];
         int billFrom;
         int billTo;
         boolean billTold;
-
-        Reader(Tape tape) {
-            this.tape = tape;
-            grammar = new Grammar(tape);
-        }
 
         int readInn(Inn inn) {
             inn.clear();
