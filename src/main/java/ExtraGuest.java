@@ -436,9 +436,9 @@ public final class ExtraGuest {
             end = at;
             if (at >= length) {
                 kind = END;
-            } else if (isLetter(signs[at])) {
+            } else if (signs[at] >= 'a' && signs[at] <= 'z') {
                 readWord();
-            } else if (isDigit(signs[at])) {
+            } else if (signs[at] >= '0' && signs[at] <= '9') {
                 readNumber();
             } else {
                 end = at + 1;
@@ -452,37 +452,25 @@ public final class ExtraGuest {
 
         private void readWord() {
             word = 0;
-            while (end < length && isLetter(signs[end])) {
+            while (end < length && signs[end] >= 'a' && signs[end] <= 'z') {
                 word = word << 8 | signs[end];
                 end++;
             }
-            kind = end - place > WORD_LETTERS ? NO_TOKEN : keyOf(word);
+            kind = end - place > WORD_LETTERS ? NO_TOKEN : NAME;
+            for (int i = 0; i < KEYS && kind == NAME; i++) {
+                if (keys[i] == word) {
+                    kind = i;
+                }
+            }
         }
 
         private void readNumber() {
             number = 0;
-            while (end < length && isDigit(signs[end])) {
+            while (end < length && signs[end] >= '0' && signs[end] <= '9') {
                 number = number * 10 + signs[end] - '0';
                 end++;
             }
             kind = end - place > NUMBER_DIGITS ? NO_TOKEN : NUMBER;
-        }
-
-        private int keyOf(long packed) {
-            for (int i = 0; i < KEYS; i++) {
-                if (keys[i] == packed) {
-                    return i;
-                }
-            }
-            return NAME;
-        }
-
-        private static boolean isLetter(byte sign) {
-            return sign >= 'a' && sign <= 'z';
-        }
-
-        private static boolean isDigit(byte sign) {
-            return sign >= '0' && sign <= '9';
         }
     }
 
