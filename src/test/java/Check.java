@@ -3,14 +3,20 @@ import java.nio.charset.StandardCharsets;
 /** Helps the tests: counts and prints what is not as due, and feeds whole texts. */
 final class Check {
     private static int wrong = 0;
+    private static String sentence = "";
 
     private Check() { }
+
+    /** The sentence of the document, with its promise's number or its word in capitals, that is tested next. */
+    static void about(String words) {
+        sentence = words + " | ";
+    }
 
     static void due(String call, long got, long want) {
         if (got != want) {
             wrong++;
             if (wrong < 50) {
-                System.out.println(call + " answered " + got + ", due is " + want);
+                System.out.println(sentence + call + " answered " + got + ", due is " + want);
             }
         }
     }
@@ -57,6 +63,15 @@ final class Check {
     static int morning(ExtraGuest guest, String text) {
         feed(guest, text);
         return guest.morning();
+    }
+
+    /** Reads a text with a FAULT of a kind at the sign |, which is left out; of kind 0: without a FAULT. */
+    static void reads(ExtraGuest guest, boolean asInn, int kind, String marked) {
+        int place = marked.indexOf('|');
+        String text = place < 0 ? marked : marked.substring(0, place) + marked.substring(place + 1);
+        due("feed " + marked, feed(guest, text), Math.min(1000, text.length()));
+        due(marked, asInn ? guest.inn() : guest.morning(), kind == 0 ? 0 : kind + 16 * place);
+        due("the tape is taken: " + marked, guest.count(7), 0);
     }
 
     /** A new object with an INN that has no FAULT. */

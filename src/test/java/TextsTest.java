@@ -6,7 +6,7 @@ public final class TextsTest {
     /** A text that is an INN, or has one FAULT at the sign |, which is left out. */
     private static void inn(int kind, String marked) {
         ExtraGuest it = kept();
-        read(it, kind, marked, true);
+        Check.reads(it, true, kind, marked);
         if (kind != 0) {
             allStays(it, marked);
         }
@@ -14,19 +14,10 @@ public final class TextsTest {
 
     private static void morning(int kind, String marked) {
         ExtraGuest it = kept();
-        read(it, kind, marked, false);
+        Check.reads(it, false, kind, marked);
         if (kind != 0) {
             allStays(it, marked);
         }
-    }
-
-    private static void read(ExtraGuest it, int kind, String marked, boolean asInn) {
-        int place = marked.indexOf('|');
-        String text = place < 0 ? marked : marked.substring(0, place) + marked.substring(place + 1);
-        int due = kind == 0 ? 0 : kind + 16 * place;
-        Check.due("feed " + marked, Check.feed(it, text), Math.min(1000, text.length()));
-        Check.due(marked, asInn ? it.inn() : it.morning(), due);
-        Check.due("the tape is taken: " + marked, it.count(7), 0);
     }
 
     /** An object in which everything is there that a FAULT must not change. */
