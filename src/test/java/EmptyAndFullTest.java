@@ -192,6 +192,24 @@ public final class EmptyAndFullTest {
         });
     }
 
+    private static void fiveHundredTwelveCalls() {
+        Check.about("An object is used for at most 512 calls: the last ones answer as the first ones do");
+        ExtraGuest it = new ExtraGuest();
+        Check.due("fed", Check.feed(it, Inns.guests(1)), 27);
+        it.inn();
+        // the tape's count, two feeds and inn are four; each turn has four more
+        for (int calls = 4; calls < 508; calls += 4) {
+            Check.due("weather", it.weather(calls / 4 % 4), 1);
+            Check.due("undo", it.undo(), true);
+            Check.due("night", it.night(), 1);
+            Check.due("undo", it.undo(), true);
+        }
+        Check.due("the 509th", it.weather(3), 1);
+        Check.due("the 510th", it.left(), 8);
+        Check.due("the 511th", it.undo(), true);
+        Check.due("the 512th", it.undo(), false);
+    }
+
     public static void main(String[] args) {
         refuse("used", Inns::used, refusedAlways());
         refuse("used", Inns::used, refusedWhenUsed());
@@ -204,6 +222,7 @@ public final class EmptyAndFullTest {
         oneMoreInATextLeavesAll();
         undoesAllThatIsFull();
         anEmptyTape();
+        fiveHundredTwelveCalls();
         Check.end();
     }
 }

@@ -244,12 +244,8 @@ public final class HouseBoundsTest {
 
     private static void yearsAtTheirMost() {
         Check.about("YEARS: how often all SIGNS together tell; he himself knows it; how many SIGNS showed: none and all");
-        String always = "";
-        String never = "";
-        for (int i = 0; i < 6; i++) {
-            always += Inns.sign(i, 10, "snow or not snow");
-            never += Inns.sign(i, 10, "snow and not snow");
-        }
+        String always = Inns.sixSigns("snow or not snow");
+        String never = Inns.sixSigns("snow and not snow");
         years(Inns.guests(8) + always, 0, 0, 600);
         years(Inns.guests(8) + never, 0, 0, 0);
         years(Inns.guests(1), 100, 100, 0);

@@ -190,6 +190,31 @@ public final class InnBoundsTest {
         inn(1, "bill 1|bill 1;");
     }
 
+    private static void wordsStandWhereTheyCan() {
+        Check.about("INN: lines begin with guest, sign, sees, shun, bill; FAULTS: 1 it can't stand there");
+        for (String word : RESERVED) {
+            if ("guest sign sees shun bill".indexOf(word) < 0) {
+                inn(1, "|" + word + " a mad room 1 stays 1;");
+            }
+        }
+        Check.about("FORMULA: an ITEM is not .., ( .. ), a WEATHER, odd, low, alone, old, a NAME; E: a PART not .., ( .. ), a NUMBER, a fact");
+        for (String word : RESERVED) {
+            boolean item = "clear snow fog wind odd low alone old not".indexOf(word) >= 0;
+            if (!item) {
+                inn(1, Inns.guests(1) + "sign p errs 0 when |" + word + ";");
+                inn(1, Inns.guests(1) + "sign p errs 0 when a or |" + word + ";");
+            }
+            if (!word.equals("not")) {
+                inn(1, "bill |" + word + ";");
+                inn(1, "bill 1+|" + word + ";");
+            }
+            if (!word.equals("and") && !word.equals("or")) {
+                inn(1, Inns.guests(1) + "sign p errs 0 when a |" + word + " a;");
+                inn(1, "bill 1 |" + word + " 1;");
+            }
+        }
+    }
+
     private static void namesAreOtherWords() {
         Check.about("NAME: another WORD than those with a meaning");
         for (String word : RESERVED) {
@@ -229,6 +254,19 @@ public final class InnBoundsTest {
         inn(3, Inns.signs(5) + "sign |t errs 0 when snow;");
         inn(3, Inns.signs(6) + "guest |u mad room 1 stays 1;");
         inn(3, Inns.guests(8) + "sign |h errs 0 when snow;");
+    }
+
+    private static void formulasNameWhatIsTold() {
+        Check.about("FORMULA: the NAME of a GUEST or a SIGN told; 2: a NAME of neither told");
+        inn(2, "sign p errs 0 when |p;");
+        inn(2, "sign p errs 0 when |q;" + Inns.sign(1, 0, "snow"));
+        inn(2, "sign p errs 0 when |a;" + Inns.guests(1));
+        inn(2, Inns.guests(8) + Inns.signs(5) + "sign u errs 0 when a or |u;");
+        inn(2, Inns.guests(8) + Inns.signs(5) + "sign u errs 0 when not |i;");
+        inn(0, Inns.guests(8) + Inns.signs(5) + "sign u errs 0 when a or h or p or t;");
+        inn(2, Inns.guests(1) + "sign p errs 0 when |door;");
+        Check.due("each of 8 and 5 is known", Check.at(Inns.guests(8) + Inns.signs(5)
+                + Inns.sign(5, 0, "h and not ( p and q and r and s and t )")).shows(31), 32);
     }
 
     /** An item within so many of not and ( ), of which a set of bits tells which; | at the item. */
@@ -323,6 +361,11 @@ public final class InnBoundsTest {
         inn(5, Inns.guests(8) + "|guest 1 x 0 %");
         inn(4, "sign p errs |11 x");
         inn(1, "bill 1 |%;bill 1;");
+        inn(1, "guest a mad |stays 1;%");
+        inn(1, "guest a mad room |stays 1;%");
+        inn(1, "sign p |when snow;%");
+        inn(1, "sign p errs |when snow;%");
+        inn(4, "sign p errs |11 when snow;%");
     }
 
     private static void anInnSetsAllBack() {
@@ -356,6 +399,20 @@ public final class InnBoundsTest {
             it.hear(1, true);
             Check.due("no text at all", it.inn(), 0);
         });
+    }
+
+    private static void anInnTakesNothingFromThoseBefore() {
+        Check.about("INN: what showed in another INN, or in one with a FAULT, does not show in this one");
+        String always = Inns.guests(8) + Inns.sixSigns("snow or not snow");
+        String never = Inns.guests(8) + Inns.sixSigns("snow and not snow");
+        for (String between : new String[] {always, never, always + "%", ""}) {
+            ExtraGuest it = Check.at(always);
+            Check.inn(it, between);
+            Check.due("never", Check.inn(it, never), 0);
+            for (int world = 0; world < 32; world++) {
+                Check.due("shows " + world, it.shows(world), 0);
+            }
+        }
     }
 
     private static void aFaultLeavesAll() {
@@ -411,13 +468,16 @@ public final class InnBoundsTest {
         seesNamesAGuestAndSigns();
         shunNamesTwoGuests();
         billIsToldOnce();
+        wordsStandWhereTheyCan();
         namesAreOtherWords();
         noTwoNamesAreAlike();
+        formulasNameWhatIsTold();
         noItemLiesWithinFive();
         noPartLiesWithinFive();
         theEndIsATokenAtTheTextsLength();
         theFirstWrongTokenCounts();
         anInnSetsAllBack();
+        anInnTakesNothingFromThoseBefore();
         aFaultLeavesAll();
         aNewObjectIsNothing();
         guestTakesGuestsAndWhats();

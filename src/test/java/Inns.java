@@ -43,6 +43,15 @@ final class Inns {
         return text.toString();
     }
 
+    /** Six SIGNS with the same FORMULA. */
+    static String sixSigns(String when) {
+        StringBuilder text = new StringBuilder();
+        for (int i = 0; i < 6; i++) {
+            text.append(sign(i, 10, when));
+        }
+        return text.toString();
+    }
+
     /** All pairs of so many GUESTS, who shun each other. */
     static String shuns(int many) {
         StringBuilder text = new StringBuilder();

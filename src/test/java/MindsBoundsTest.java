@@ -61,11 +61,18 @@ public final class MindsBoundsTest {
             kinds += "m";
         }
         Check.due("eight plain ones", of("pppppppp").fewest(), 4);
+        Check.due("eight liars", of("llllllll").fewest(), 4);
+        Check.due("two liars", of("ll").fewest(), -1);
+        Check.due("one liar of eight", of("lmmmmmmm").fewest(), 6);
         ExtraGuest it = of("mmmmmmmh");
         it.answer(7, 0, false);
         Check.due("one less", it.fewest(), 6);
         it.answer(7, 1, true);
         Check.due("he is sure", it.fewest(), 0);
+        ExtraGuest one = Check.at(Inns.kinds("pmm") + Inns.sign(0, 0, "a or b"));
+        one.sign(0, true);
+        Check.due("one question of all parts the two", one.fewest(), 1);
+        Check.due("about one who can't be", one.ask(), 2);
         ExtraGuest mixed = Check.at(Inns.kinds("mmm") + Inns.sign(0, 0, "a or b"));
         Check.due("a sign is no question", mixed.fewest(), -1);
     }
@@ -217,8 +224,10 @@ public final class MindsBoundsTest {
         for (int world = 0; world < 32; world++) {
             Check.due("all see all", full.common(world), 1 << world / 4);
         }
-        ExtraGuest blind = Check.at(Inns.full().replace("sees h p q r s t u;", ""));
-        Check.due("one sees nothing", blind.common(0), 255);
+        for (char guest = 'a'; guest < 'i'; guest++) {
+            ExtraGuest blind = Check.at(Inns.full().replace("sees " + guest + " p q r s t u;", ""));
+            Check.due(guest + " sees nothing", blind.common(0), 255);
+        }
     }
 
     public static void main(String[] args) {

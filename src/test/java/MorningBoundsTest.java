@@ -32,6 +32,12 @@ public final class MorningBoundsTest {
     }
 
     private static void linesNameGuestsAndSigns() {
+        Check.about("MORNING: lines begin with says, shows, hides, weather, night; FAULTS: 1 it can't stand there");
+        for (String other : new String[] {"guest", "room", "stays", "sign", "errs", "when", "sees", "shun", "bill", "plain",
+            "honest", "liar", "mad", "clear", "snow", "fog", "wind", "odd", "low", "alone", "old", "not", "and", "or", "a", "p"}) {
+            morning(1, "|" + other + " p;");
+            morning(1, "night;|" + other + " p;");
+        }
         Check.about("MORNING: says NAME (a GUEST); 2: a NAME of no GUEST");
         morning(2, "says |p a;");
         morning(2, "says |x a;");

@@ -84,6 +84,22 @@ public final class TapeBoundsTest {
         Check.due("and can be fed", Check.feed(it, "night;"), 6);
     }
 
+    private static void nothingBehindTheTapeIsRead() {
+        Check.about("TAPE: it is empty then: what stood on it is not read again");
+        String[] longer = {"bill 1234567;", "guest aaaaaaaa mad room 12 stays 99;", "bill ((1))+2;"};
+        String[] shorter = {"bill 123", "guest aaa", "bill ((1)"};
+        for (int i = 0; i < longer.length; i++) {
+            ExtraGuest it = new ExtraGuest();
+            Check.inn(it, longer[i]);
+            Check.reads(it, true, 1, shorter[i] + "|");
+        }
+        Check.about("TAPE: the thousandth sign is a digit, a letter, a sign, a blank, none");
+        for (String last : new String[] {"bill 1", "bill 123", "guest a", "guest aa", "bill (", "bill 1\n"}) {
+            Check.reads(new ExtraGuest(), true, 1, " ".repeat(1000 - last.length()) + last + "|");
+        }
+        Check.reads(new ExtraGuest(), true, 1, " ".repeat(999) + "|%");
+    }
+
     private static void onlyInnAndMorningReadTheTape() {
         Check.about("TAPE: what reads it takes it; nothing else does");
         ExtraGuest it = Inns.used();
@@ -218,6 +234,7 @@ public final class TapeBoundsTest {
         tapeTakesTenAndThirtyTwoToHundredTwentySix();
         feedPutsTheHighestByteFirst();
         whatReadsTheTapeTakesIt();
+        nothingBehindTheTapeIsRead();
         onlyInnAndMorningReadTheTape();
         tokensAreAsLongAsCanBe();
         blanksStandWhereOneLikes();
