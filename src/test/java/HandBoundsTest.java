@@ -5,9 +5,10 @@ public final class HandBoundsTest {
     private static void worldsAreGuestTimesFourAndWeather() {
         Check.about("WORLD: its number is the GUEST * 4 + the WEATHER; promise 6, NONE: others");
         for (int many = 0; many <= 8; many++) {
-            ExtraGuest it = Check.at(Inns.guests(many) + (many == 0 ? "sign p errs 0 when snow;" : Inns.sign(0, 0, "a"))
-                    + Inns.sign(1, 0, many == 0 ? "fog" : "" + (char) ('a' + many - 1)) + Inns.sign(2, 0, "clear")
-                    + Inns.sign(3, 0, "snow") + Inns.sign(4, 0, "fog") + Inns.sign(5, 0, "wind"));
+            String first = many == 0 ? "snow" : "a";
+            String last = many == 0 ? "snow" : "" + (char) ('a' + many - 1);
+            ExtraGuest it = Check.at(Inns.guests(many) + Inns.sign(0, 0, first) + Inns.sign(1, 0, last)
+                    + Inns.sign(2, 0, "clear") + Inns.sign(3, 0, "snow") + Inns.sign(4, 0, "fog") + Inns.sign(5, 0, "wind"));
             for (int world = 0; world < 4 * many; world++) {
                 int due = (world < 4 ? 1 : 0) + (world >= 4 * many - 4 ? 2 : 0) + (4 << world % 4);
                 Check.due("shows " + world + " of " + many, it.shows(world), due);
@@ -17,12 +18,19 @@ public final class HandBoundsTest {
             for (int far : FAR) {
                 Check.due("shows " + far, it.shows(far), -1);
             }
-            Check.about("Promise 7: WORLDS LEFT, as bits");
-            Check.due("left of " + many, it.left(), (int) ((1L << 4 * many) - 1));
-            Check.due("count of " + many, it.count(2), 4 * many);
-            Check.about("WORLD: its number is the GUEST * 4 + the WEATHER; promise 6, NONE: others");
         }
         Check.due("without signs nothing shows", Check.at(Inns.guests(1)).shows(3), 0);
+    }
+
+    private static void leftIsBits() {
+        Check.about("Promise 7: WORLDS LEFT, as bits; promise 34, what 2");
+        Check.due("no inn", new ExtraGuest().left(), 0);
+        int[] left = {0, 0xf, 0xff, 0xfff, 0xffff, 0xfffff, 0xffffff, 0xfffffff, -1};
+        for (int many = 0; many <= 8; many++) {
+            ExtraGuest it = Check.at(Inns.guests(many));
+            Check.due("left of " + many, it.left(), left[many]);
+            Check.due("count of " + many, it.count(2), 4 * many);
+        }
     }
 
     /** Bits of odd 1, low 2, alone 4, old 8 for one GUEST in an INN. */
@@ -345,6 +353,7 @@ public final class HandBoundsTest {
 
     public static void main(String[] args) {
         worldsAreGuestTimesFourAndWeather();
+        leftIsBits();
         factsHoldAtTheirEdges();
         saysByKind();
         answersAreOfGuests();

@@ -366,6 +366,12 @@ public final class InnBoundsTest {
         inn(1, "sign p |when snow;%");
         inn(1, "sign p errs |when snow;%");
         inn(4, "sign p errs |11 when snow;%");
+        for (String twice : new String[] {"+", "-", "*", "<", "=", " and ", " or "}) {
+            inn(1, "bill 1" + twice + "|" + twice.trim() + " 1;%");
+        }
+        inn(1, Inns.guests(1) + "sign p errs 0 when a or |or a;%");
+        inn(1, Inns.guests(1) + "sign p errs 0 when a and |and a;%");
+        inn(1, Inns.guests(1) + "sign p errs 0 when (a|;%");
     }
 
     private static void anInnSetsAllBack() {

@@ -161,7 +161,7 @@ public final class MindsBoundsTest {
     }
 
     private static void viewsAreByWhatIsSeen() {
-        Check.about("VIEW: WORLDS LEFT in which all SIGNS that he sees show just the same (without sees: all LEFT)");
+        Check.about("VIEW: WORLDS LEFT in which all SIGNS that he sees show just the same (without sees: all LEFT); KNOWS by it");
         ExtraGuest it = Check.at(Inns.full().replace("sees a p q r s t u;", "").replace("sees b p q r s t u;", "sees b s;"));
         for (int world = 0; world < 32; world++) {
             Check.due("without sees", it.knows(0, world), 255);
