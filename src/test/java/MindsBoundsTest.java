@@ -63,6 +63,11 @@ public final class MindsBoundsTest {
         Check.due("eight plain ones", of("pppppppp").fewest(), 4);
         Check.due("eight liars", of("llllllll").fewest(), 4);
         Check.due("two liars", of("ll").fewest(), -1);
+        // more than 16 questions part them, and late ones are needed
+        Check.due("seven plain ones behind an honest one", of("hppppppp").fewest(), 4);
+        ExtraGuest late = Check.at(Inns.kinds("lppppppp") + Inns.sign(0, 0, "not ( a or b )"));
+        late.sign(0, true);
+        Check.due("six plain ones", late.fewest(), 3);
         Check.due("one liar of eight", of("lmmmmmmm").fewest(), 6);
         ExtraGuest it = of("mmmmmmmh");
         it.answer(7, 0, false);
